@@ -42,6 +42,8 @@ public final class PromisesTest {
         promise12Tick();
         promise13At();
         promise14Sounds();
+        promise14Changes();
+        nothingStaysOfALongerRoad();
         promise14Ties();
         promise15Sound();
         promise15Order();
@@ -151,6 +153,8 @@ public final class PromisesTest {
         due("4 no kind", x.signAt(0, -1), 0);
         due("4 no kind", x.signAt(0, 11), 0);
         due("4 no kind, which would be another bar's", x.signAt(0, 27), 0);
+        x.sign(1, START, 1);
+        due("4 no kind, which would be the next bar's", x.signAt(0, 10), 0);
         due("4 far", x.signAt(Integer.MAX_VALUE, Integer.MIN_VALUE), 0);
     }
 
@@ -239,6 +243,8 @@ public final class PromisesTest {
         checkDue("2 ENDING behind a repeat without", 202, roads(5, 1, END, 2, 2, ENDING, 1));
         checkDue("2 two up to the first END", 201,
                 roads(5, 0, ENDING, 1, 1, ENDING, 2, 2, END, 3, 3, ENDING, 4));
+        checkDue("2 the second one in the bar of the first END", 201,
+                roads(5, 0, ENDING, 1, 1, ENDING, 2, 1, END, 2, 2, ENDING, 2));
         checkDue("2 a bar between END and ENDING", 203, roads(5, 1, ENDING, 1, 1, END, 2, 3, ENDING, 2));
         checkDue("2 an earlier repeat's ending is none of the later one", 204, roads(6, 1, ENDING, 1, 1, END, 2,
                 2, ENDING, 2, 2, START, 1, 3, END, 2, 4, ENDING, 2));
@@ -253,6 +259,7 @@ public final class PromisesTest {
         checkDue("START makes a new repeat with a count of its own", 0, roads(6, 1, ENDING, 1, 1, END, 2,
                 2, ENDING, 2, 3, START, 1, 4, END, 4));
         checkDue("4 a pass is missing", 401, roads(5, 1, START, 1, 2, ENDING, 1, 2, END, 3, 3, ENDING, 4));
+        checkDue("4 a repeat of one bar", 401, roads(5, 1, START, 1, 1, ENDING, 4, 1, END, 2, 2, ENDING, 2));
         checkDue("4 a pass is there twice", 400, roads(5, 1, ENDING, 3, 1, END, 2, 2, ENDING, 2));
         checkDue("4 a pass too many", 400, roads(5, 1, ENDING, 5, 1, END, 2, 2, ENDING, 2));
         checkDue("4 the last ending has not the last pass", 400, roads(5, 1, ENDING, 2, 1, END, 2, 2, ENDING, 1));
@@ -311,8 +318,7 @@ public final class PromisesTest {
         }
         most.sign(19, JUMP, 7);
         due("8 each bar eight times", most.plays(), 160);
-        due("8 three ways through a long repeat", roads(20, 0, ENDING, 1, 0, END, 2, 0, OVER, 1, 1, ENDING, 2,
-                2, START, 1, 2, JUMP, 11, 3, CODA, 1, 19, END, 4, 19, OVER, 1).plays(), 202);
+        due("8 three ways through a long repeat", threeWays().plays(), 202);
     }
 
     private static void promise09PlayedRepeats() {
@@ -341,6 +347,7 @@ public final class PromisesTest {
         playedDue("0 1 0 1 2 3 0 1 2 3", roads(4, 1, END, 2, 3, JUMP, 1));
         playedDue("0 1 0 1 2 3 0 1 0 1 2 3", roads(4, 1, END, 2, 3, JUMP, 7));
         playedDue("0 1 2 1 2 3", roads(4, 1, SEGNO, 1, 2, JUMP, 2));
+        playedDue("0 1 0 1 2", roads(3, 0, SEGNO, 1, 1, JUMP, 2));
         playedDue("0 1 2 2 3", roads(4, 2, SEGNO, 1, 2, JUMP, 8));
         playedDue("0 1 2 3 0 1", roads(5, 1, FINE, 1, 3, JUMP, 3));
         playedDue("0 1 2 3 1 2", roads(5, 0, FINE, 1, 1, SEGNO, 1, 2, FINE, 1, 3, JUMP, 4));
@@ -357,6 +364,7 @@ public final class PromisesTest {
         playedDue("0 1 0 1 2 3 0 1 0 1", roads(4, 1, END, 2, 1, FINE, 1, 3, JUMP, 9));
         playedDue("0 1 0 1 2 3 0 1 0", roads(4, 1, END, 2, 0, FINE, 1, 3, JUMP, 9));
         playedDue("0 1 0 1 2 3 0 4", roads(5, 1, END, 2, 0, OVER, 1, 3, JUMP, 5, 4, CODA, 1));
+        playedDue("0 1 0 1 2 3 0 1 2 4", roads(5, 1, END, 2, 0, SEGNO, 1, 2, OVER, 1, 3, JUMP, 6, 4, CODA, 1));
         playedDue("0 1 0 1 2 3 0 1 0 4", roads(5, 1, END, 2, 0, OVER, 1, 3, JUMP, 11, 4, CODA, 1));
         playedDue("0 1 0 0 1 2", roads(3, 0, JUMP, 1, 1, END, 2));
         playedDue("0 1 0 0 1 0 1 2", roads(3, 0, JUMP, 7, 1, END, 2));
@@ -370,6 +378,9 @@ public final class PromisesTest {
                 2, CODA, 1, 3, OVER, 1));
         playedDue("0 3 0 1 2 0 0 3 0 1 2 0 2 3 0 1 2 0 4 5", roads(6, 0, JUMP, 11, 0, OVER, 1, 1, ENDING, 2,
                 2, CODA, 1, 2, END, 3, 3, ENDING, 1, 3, END, 3, 4, ENDING, 4));
+        playedDue("0 1 2 3 4 2 0 1 2 3 4 2 3 5 6 3 4 2 3 5 6 7", roads(8, 0, ENDING, 1, 0, END, 2, 0, OVER, 1,
+                1, ENDING, 2, 2, START, 1, 2, JUMP, 11, 3, CODA, 1, 4, ENDING, 1, 4, END, 2, 5, ENDING, 2,
+                6, OVER, 1));
     }
 
     private static void promise09Wrong() {
@@ -469,6 +480,48 @@ public final class PromisesTest {
         x.sign(2, START, 1);
         throwsDue("14 fault", STATE, () -> x.sounds(2));
         throwsDue("14 part first", ARGUMENT, () -> x.sounds(3));
+    }
+
+    private static void promise14Changes() {
+        ScoreRoads x = tied(0, 16, true, 0, 60);
+        due("14 at first", x.sounds(0), 1);
+        x.bar(0, 17, 10);
+        due("14 behind bar", x.sounds(0), 2);
+        x.bar(0, 16, 10);
+        due("14 behind bar", x.sounds(0), 1);
+        x.sign(1, END, 2);
+        due("14 behind sign", x.sounds(0), 2);
+        x.note(0, 0, 0, 1, 61, false);
+        due("14 behind note", x.sounds(0), 4);
+        x.sign(1, END, 0);
+        due("14 behind a sign taken away", x.sounds(0), 2);
+        ScoreRoads most = threeWays();
+        for (int n = 0; n < 40; n++) {
+            most.note(1, 3, n % 16, 1, 100 - n, true);
+        }
+        due("14 forty notes eleven times", most.sounds(1), 440);
+        due("14 the last one", most.sound(1, 439, 0), most.tick(most.find(3, 11)) + 150);
+        due("14 the last one", most.sound(1, 439, 1), 85);
+    }
+
+    private static void nothingStaysOfALongerRoad() {
+        ScoreRoads x = roads(2, 1, END, 2);
+        x.note(0, 1, 0, 16, 60, true);
+        x.note(0, 0, 0, 4, 60, false);
+        due("11 longer", x.find(0, 2), 2);
+        due("14 longer", x.sounds(0), 3);
+        due("15 longer", x.sound(0, 1, 2), 20);
+        due("15 longer", x.sound(0, 2, 2), 16);
+        x.sign(1, END, 0);
+        due("8 shorter", x.plays(), 2);
+        throwsDue("9 shorter", INDEX, () -> x.played(2));
+        throwsDue("10 shorter", INDEX, () -> x.time(2));
+        due("11 shorter", x.find(0, 2), NONE);
+        throwsDue("12 shorter", INDEX, () -> x.tick(3));
+        due("13 shorter", x.at(320), NONE);
+        due("14 shorter", x.sounds(0), 2);
+        due("15 shorter", x.sound(0, 1, 2), 16);
+        due("15 shorter", x.sound(0, 2, 2), NONE);
     }
 
     private static void promise14Ties() {
@@ -617,6 +670,12 @@ public final class PromisesTest {
             x.sign(signs[s], signs[s + 1], signs[s + 2]);
         }
         return x;
+    }
+
+    /** The OVER in a first ending is never followed, so bar 3 comes before the jump, behind it, and as the coda. */
+    private static ScoreRoads threeWays() {
+        return roads(20, 0, ENDING, 1, 0, END, 2, 0, OVER, 1, 1, ENDING, 2, 2, START, 1, 2, JUMP, 11, 3, CODA, 1,
+                19, END, 4, 19, OVER, 1);
     }
 
     /** Two bars: a note of pitch 60 in the first one, and one of four sixteenths in the second one. */
