@@ -105,6 +105,7 @@ public final class ScoreRoads {
         if (!notes.canShift(part, steps)) {
             throw new IllegalArgumentException("a pitch would be out of its bounds");
         }
+        // Which sounds there are, and their order, stays: they are not forgotten here.
         return notes.shift(part, steps);
     }
 
