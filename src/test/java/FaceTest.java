@@ -29,7 +29,8 @@ public final class FaceTest {
 
     public static void main(String[] args) {
         Class<?> face = ScoreRoads.class;
-        due("class is public and final", Modifier.isPublic(face.getModifiers()) && Modifier.isFinal(face.getModifiers()));
+        due("class is public and final",
+                Modifier.isPublic(face.getModifiers()) && Modifier.isFinal(face.getModifiers()));
         due("class has no package", face.getPackageName().isEmpty());
         methodsAreTheFace(face);
         onlyNoneIsSeen(face);

@@ -1,25 +1,5 @@
-import java.util.function.LongSupplier;
-
 /** One method for each promise of the document: ordinary calls, the edges, and wrong calls. */
-public final class PromisesTest {
-    private static final int START = 0;
-    private static final int END = 1;
-    private static final int ENDING = 2;
-    private static final int SEGNO = 3;
-    private static final int CODA = 4;
-    private static final int FINE = 5;
-    private static final int OVER = 6;
-    private static final int JUMP = 7;
-    private static final int LETTER = 8;
-    private static final int DOUBLE = 9;
-    private static final int NONE = ScoreRoads.NONE;
-    private static final Class<?> ARGUMENT = IllegalArgumentException.class;
-    private static final Class<?> STATE = IllegalStateException.class;
-    private static final Class<?> INDEX = IndexOutOfBoundsException.class;
-
-    private static int wrong = 0;
-    private static int asked = 0;
-
+public final class PromisesTest extends Dues {
     public static void main(String[] args) {
         promise01NewObject();
         promise02Bar();
@@ -49,10 +29,7 @@ public final class PromisesTest {
         promise15Order();
         promise16Rest();
         promise16Cuts();
-        System.out.println(asked + " answers looked at, " + wrong + " wrong");
-        if (wrong != 0) {
-            System.exit(1);
-        }
+        end();
     }
 
     private static void promise01NewObject() {
@@ -112,34 +89,34 @@ public final class PromisesTest {
             int k = kind;
             int low = least[kind];
             int high = most[kind];
-            due("3 none to take", flag(x.sign(1, k, 0)), 0);
+            due("3 none to take", doSign(x, 1, k, 0), 0);
             for (int value = low; value <= high; value++) {
-                due("3 put", flag(x.sign(1, k, value)), 1);
-                due("3 put again", flag(x.sign(1, k, value)), 0);
+                due("3 put", doSign(x, 1, k, value), 1);
+                due("3 put again", doSign(x, 1, k, value), 0);
                 due("3 value", x.signAt(1, k), value);
-                due("3 take", flag(x.sign(1, k, 0)), 1);
+                due("3 take", doSign(x, 1, k, 0), 1);
                 due("3 taken", x.signAt(1, k), 0);
             }
             if (low > 1) {
-                throwsDue("3 value below", ARGUMENT, () -> flag(x.sign(1, k, low - 1)));
+                throwsDue("3 value below", ARGUMENT, () -> doSign(x, 1, k, low - 1));
             }
-            throwsDue("3 value below 0", ARGUMENT, () -> flag(x.sign(1, k, -1)));
-            throwsDue("3 value above", ARGUMENT, () -> flag(x.sign(1, k, high + 1)));
+            throwsDue("3 value below 0", ARGUMENT, () -> doSign(x, 1, k, -1));
+            throwsDue("3 value above", ARGUMENT, () -> doSign(x, 1, k, high + 1));
             x.sign(1, k, high);
-            throwsDue("3 argument first", ARGUMENT, () -> flag(x.sign(1, k, high + 1)));
+            throwsDue("3 argument first", ARGUMENT, () -> doSign(x, 1, k, high + 1));
             if (low < high) {
-                throwsDue("3 another value", STATE, () -> flag(x.sign(1, k, low)));
+                throwsDue("3 another value", STATE, () -> doSign(x, 1, k, low));
             }
             due("3 unchanged", x.signAt(1, k), high);
             due("3 another bar", x.signAt(0, k), 0);
         }
         ScoreRoads x = new ScoreRoads(2);
-        throwsDue("3 bar", ARGUMENT, () -> flag(x.sign(-1, 0, 1)));
-        throwsDue("3 bar", ARGUMENT, () -> flag(x.sign(2, 0, 1)));
-        throwsDue("3 bar, taking away", ARGUMENT, () -> flag(x.sign(2, 0, 0)));
-        throwsDue("3 kind", ARGUMENT, () -> flag(x.sign(0, -1, 0)));
-        throwsDue("3 kind", ARGUMENT, () -> flag(x.sign(0, 10, 1)));
-        throwsDue("3 kind", ARGUMENT, () -> flag(x.sign(0, Integer.MAX_VALUE, 0)));
+        throwsDue("3 bar", ARGUMENT, () -> doSign(x, -1, 0, 1));
+        throwsDue("3 bar", ARGUMENT, () -> doSign(x, 2, 0, 1));
+        throwsDue("3 bar, taking away", ARGUMENT, () -> doSign(x, 2, 0, 0));
+        throwsDue("3 kind", ARGUMENT, () -> doSign(x, 0, -1, 0));
+        throwsDue("3 kind", ARGUMENT, () -> doSign(x, 0, 10, 1));
+        throwsDue("3 kind", ARGUMENT, () -> doSign(x, 0, Integer.MAX_VALUE, 0));
     }
 
     private static void promise04SignAt() {
@@ -224,78 +201,78 @@ public final class PromisesTest {
     }
 
     private static void promise07Repeats() {
-        checkDue("no signs", 0, roads(4));
-        checkDue("1 START alone", 102, roads(4, 2, START, 1));
-        checkDue("1 START with END in it", 0, roads(4, 2, START, 1, 2, END, 2));
-        checkDue("1 START with END in the last bar", 0, roads(4, 0, START, 1, 3, END, 2));
-        checkDue("1 END before it only", 102, roads(4, 2, START, 1, 1, END, 2));
-        checkDue("1 END in the next START's bar", 100, roads(4, 0, START, 1, 1, START, 1, 1, END, 2));
-        checkDue("1 the first of two", 101, roads(4, 1, START, 1, 3, START, 1));
-        checkDue("1 the second of two", 103, roads(4, 1, START, 1, 2, END, 2, 3, START, 1));
-        checkDue("END alone", 0, roads(4, 2, END, 3));
-        checkDue("other counts without endings", 0, roads(4, 1, END, 3, 2, END, 2, 3, END, 4));
-        checkDue("1 before 2, though behind it", 103, roads(4, 0, ENDING, 1, 3, START, 1));
+        checkDue("7 no signs", 0, roads(4));
+        checkDue("7 1 START alone", 102, roads(4, 2, START, 1));
+        checkDue("7 1 START with END in it", 0, roads(4, 2, START, 1, 2, END, 2));
+        checkDue("7 1 START with END in the last bar", 0, roads(4, 0, START, 1, 3, END, 2));
+        checkDue("7 1 END before it only", 102, roads(4, 2, START, 1, 1, END, 2));
+        checkDue("7 1 END in the next START's bar", 100, roads(4, 0, START, 1, 1, START, 1, 1, END, 2));
+        checkDue("7 1 the first of two", 101, roads(4, 1, START, 1, 3, START, 1));
+        checkDue("7 1 the second of two", 103, roads(4, 1, START, 1, 2, END, 2, 3, START, 1));
+        checkDue("7 END alone", 0, roads(4, 2, END, 3));
+        checkDue("7 other counts without endings", 0, roads(4, 1, END, 3, 2, END, 2, 3, END, 4));
+        checkDue("7 1 before 2, though behind it", 103, roads(4, 0, ENDING, 1, 3, START, 1));
     }
 
     private static void promise07Endings() {
-        checkDue("2 ENDING without a repeat", 203, roads(5, 3, ENDING, 1));
-        checkDue("2 ENDING before the START", 201, roads(5, 1, ENDING, 1, 2, START, 1, 3, END, 2, 4, ENDING, 2));
-        checkDue("2 ENDING behind a repeat without", 202, roads(5, 1, END, 2, 2, ENDING, 1));
-        checkDue("2 two up to the first END", 201,
+        checkDue("7 2 ENDING without a repeat", 203, roads(5, 3, ENDING, 1));
+        checkDue("7 2 ENDING before the START", 201, roads(5, 1, ENDING, 1, 2, START, 1, 3, END, 2, 4, ENDING, 2));
+        checkDue("7 2 ENDING behind a repeat without", 202, roads(5, 1, END, 2, 2, ENDING, 1));
+        checkDue("7 2 two up to the first END", 201,
                 roads(5, 0, ENDING, 1, 1, ENDING, 2, 2, END, 3, 3, ENDING, 4));
-        checkDue("2 the second one in the bar of the first END", 201,
+        checkDue("7 2 the second one in the bar of the first END", 201,
                 roads(5, 0, ENDING, 1, 1, ENDING, 2, 1, END, 2, 2, ENDING, 2));
-        checkDue("2 a bar between END and ENDING", 203, roads(5, 1, ENDING, 1, 1, END, 2, 3, ENDING, 2));
-        checkDue("2 an earlier repeat's ending is none of the later one", 204, roads(6, 1, ENDING, 1, 1, END, 2,
+        checkDue("7 2 a bar between END and ENDING", 203, roads(5, 1, ENDING, 1, 1, END, 2, 3, ENDING, 2));
+        checkDue("7 2 an earlier repeat's ending is none of the later one", 204, roads(6, 1, ENDING, 1, 1, END, 2,
                 2, ENDING, 2, 2, START, 1, 3, END, 2, 4, ENDING, 2));
-        checkDue("an earlier repeat's ending is not the first of two", 0, roads(6, 1, ENDING, 1, 1, END, 2,
+        checkDue("7 an earlier repeat's ending is not the first of two", 0, roads(6, 1, ENDING, 1, 1, END, 2,
                 2, ENDING, 2, 2, START, 1, 3, ENDING, 1, 3, END, 2, 4, ENDING, 2));
-        checkDue("two endings", 0, roads(5, 1, ENDING, 1, 2, END, 2, 3, ENDING, 2));
-        checkDue("3 another count", 302, roads(5, 1, ENDING, 1, 1, END, 3, 2, ENDING, 2, 2, END, 2, 3, ENDING, 4));
-        checkDue("3 no ENDING behind", 301, roads(5, 1, ENDING, 1, 1, END, 2));
-        checkDue("3 no bar behind", 304, roads(5, 4, ENDING, 1, 4, END, 2));
-        checkDue("3 ENDING behind the second END is missing", 302,
+        checkDue("7 two endings", 0, roads(5, 1, ENDING, 1, 2, END, 2, 3, ENDING, 2));
+        checkDue("7 3 another count", 302, roads(5, 1, ENDING, 1, 1, END, 3, 2, ENDING, 2, 2, END, 2, 3, ENDING, 4));
+        checkDue("7 3 no ENDING behind", 301, roads(5, 1, ENDING, 1, 1, END, 2));
+        checkDue("7 3 no bar behind", 304, roads(5, 4, ENDING, 1, 4, END, 2));
+        checkDue("7 3 ENDING behind the second END is missing", 302,
                 roads(5, 1, ENDING, 1, 1, END, 3, 2, ENDING, 2, 2, END, 3));
-        checkDue("START makes a new repeat with a count of its own", 0, roads(6, 1, ENDING, 1, 1, END, 2,
+        checkDue("7 START makes a new repeat with a count of its own", 0, roads(6, 1, ENDING, 1, 1, END, 2,
                 2, ENDING, 2, 3, START, 1, 4, END, 4));
-        checkDue("4 a pass is missing", 401, roads(5, 1, START, 1, 2, ENDING, 1, 2, END, 3, 3, ENDING, 4));
-        checkDue("4 a repeat of one bar", 401, roads(5, 1, START, 1, 1, ENDING, 4, 1, END, 2, 2, ENDING, 2));
-        checkDue("4 a pass is there twice", 400, roads(5, 1, ENDING, 3, 1, END, 2, 2, ENDING, 2));
-        checkDue("4 a pass too many", 400, roads(5, 1, ENDING, 5, 1, END, 2, 2, ENDING, 2));
-        checkDue("4 the last ending has not the last pass", 400, roads(5, 1, ENDING, 2, 1, END, 2, 2, ENDING, 1));
-        checkDue("the passes in any order but for the last", 0,
+        checkDue("7 4 a pass is missing", 401, roads(5, 1, START, 1, 2, ENDING, 1, 2, END, 3, 3, ENDING, 4));
+        checkDue("7 4 a repeat of one bar", 401, roads(5, 1, START, 1, 1, ENDING, 4, 1, END, 2, 2, ENDING, 2));
+        checkDue("7 4 a pass is there twice", 400, roads(5, 1, ENDING, 3, 1, END, 2, 2, ENDING, 2));
+        checkDue("7 4 a pass too many", 400, roads(5, 1, ENDING, 5, 1, END, 2, 2, ENDING, 2));
+        checkDue("7 4 the last ending has not the last pass", 400, roads(5, 1, ENDING, 2, 1, END, 2, 2, ENDING, 1));
+        checkDue("7 the passes in any order but for the last", 0,
                 roads(5, 1, ENDING, 6, 1, END, 4, 2, ENDING, 9));
-        checkDue("4 first bar right behind the END before", 402,
+        checkDue("7 4 first bar right behind the END before", 402,
                 roads(6, 1, END, 2, 3, ENDING, 1, 3, END, 2, 4, ENDING, 4));
-        checkDue("2 before 4", 204, roads(5, 1, ENDING, 1, 1, END, 2, 2, ENDING, 1, 4, ENDING, 1));
+        checkDue("7 2 before 4", 204, roads(5, 1, ENDING, 1, 1, END, 2, 2, ENDING, 1, 4, ENDING, 1));
     }
 
     private static void promise07Jumps() {
-        checkDue("5 a second SEGNO", 503, roads(5, 0, SEGNO, 1, 3, SEGNO, 1));
-        checkDue("5 a second CODA", 502, roads(5, 1, CODA, 1, 2, CODA, 1));
-        checkDue("5 a second JUMP", 504, roads(5, 3, JUMP, 1, 4, JUMP, 1));
-        checkDue("5 the first bar of them all", 502, roads(5, 0, CODA, 1, 1, JUMP, 1, 2, JUMP, 1, 4, CODA, 1));
-        checkDue("one of each", 0, roads(5, 0, CODA, 1, 0, SEGNO, 1, 0, JUMP, 1));
-        checkDue("5 not for FINE, OVER, LETTER, DOUBLE", 0, roads(5, 0, FINE, 1, 1, FINE, 1, 0, OVER, 1, 1, OVER, 1,
+        checkDue("7 5 a second SEGNO", 503, roads(5, 0, SEGNO, 1, 3, SEGNO, 1));
+        checkDue("7 5 a second CODA", 502, roads(5, 1, CODA, 1, 2, CODA, 1));
+        checkDue("7 5 a second JUMP", 504, roads(5, 3, JUMP, 1, 4, JUMP, 1));
+        checkDue("7 5 the first bar of them all", 502, roads(5, 0, CODA, 1, 1, JUMP, 1, 2, JUMP, 1, 4, CODA, 1));
+        checkDue("7 one of each", 0, roads(5, 0, CODA, 1, 0, SEGNO, 1, 0, JUMP, 1));
+        checkDue("7 5 not for FINE, OVER, LETTER, DOUBLE", 0, roads(5, 0, FINE, 1, 1, FINE, 1, 0, OVER, 1, 1, OVER, 1,
                 0, LETTER, 1, 1, LETTER, 1, 0, DOUBLE, 1, 1, DOUBLE, 1));
-        checkDue("6 no SEGNO", 603, roads(5, 3, JUMP, 2));
-        checkDue("6 SEGNO behind", 603, roads(5, 3, JUMP, 8, 4, SEGNO, 1));
-        checkDue("SEGNO in the bar", 0, roads(5, 3, JUMP, 8, 3, SEGNO, 1));
-        checkDue("6 before 7", 603, roads(5, 3, JUMP, 4));
-        checkDue("5 before 6", 504, roads(5, 3, JUMP, 4, 4, JUMP, 1));
-        checkDue("7 no FINE", 703, roads(5, 3, JUMP, 3));
-        checkDue("7 FINE behind", 703, roads(5, 3, JUMP, 9, 4, FINE, 1));
-        checkDue("FINE in the bar", 0, roads(5, 3, JUMP, 3, 3, FINE, 1));
-        checkDue("FINE in the first bar", 0, roads(5, 3, JUMP, 3, 0, FINE, 1));
-        checkDue("7 FINE before the segno", 703, roads(5, 3, JUMP, 4, 2, SEGNO, 1, 1, FINE, 1));
-        checkDue("FINE at the segno", 0, roads(5, 3, JUMP, 10, 2, SEGNO, 1, 2, FINE, 1));
-        checkDue("7 no OVER", 703, roads(5, 3, JUMP, 5, 4, CODA, 1));
-        checkDue("7 OVER behind", 703, roads(5, 3, JUMP, 5, 4, CODA, 1, 4, OVER, 1));
-        checkDue("7 OVER before the segno", 703, roads(5, 3, JUMP, 6, 1, SEGNO, 1, 0, OVER, 1, 4, CODA, 1));
-        checkDue("7 no CODA", 703, roads(5, 3, JUMP, 5, 0, OVER, 1));
-        checkDue("7 CODA in the bar", 703, roads(5, 3, JUMP, 5, 0, OVER, 1, 3, CODA, 1));
-        checkDue("OVER and CODA", 0, roads(5, 3, JUMP, 11, 3, OVER, 1, 4, CODA, 1));
-        checkDue("to the end nothing is wanted", 0, roads(5, 3, JUMP, 7));
+        checkDue("7 6 no SEGNO", 603, roads(5, 3, JUMP, 2));
+        checkDue("7 6 SEGNO behind", 603, roads(5, 3, JUMP, 8, 4, SEGNO, 1));
+        checkDue("7 SEGNO in the bar", 0, roads(5, 3, JUMP, 8, 3, SEGNO, 1));
+        checkDue("7 6 before 7", 603, roads(5, 3, JUMP, 4));
+        checkDue("7 5 before 6", 504, roads(5, 3, JUMP, 4, 4, JUMP, 1));
+        checkDue("7 7 no FINE", 703, roads(5, 3, JUMP, 3));
+        checkDue("7 7 FINE behind", 703, roads(5, 3, JUMP, 9, 4, FINE, 1));
+        checkDue("7 FINE in the bar", 0, roads(5, 3, JUMP, 3, 3, FINE, 1));
+        checkDue("7 FINE in the first bar", 0, roads(5, 3, JUMP, 3, 0, FINE, 1));
+        checkDue("7 7 FINE before the segno", 703, roads(5, 3, JUMP, 4, 2, SEGNO, 1, 1, FINE, 1));
+        checkDue("7 FINE at the segno", 0, roads(5, 3, JUMP, 10, 2, SEGNO, 1, 2, FINE, 1));
+        checkDue("7 7 no OVER", 703, roads(5, 3, JUMP, 5, 4, CODA, 1));
+        checkDue("7 7 OVER behind", 703, roads(5, 3, JUMP, 5, 4, CODA, 1, 4, OVER, 1));
+        checkDue("7 7 OVER before the segno", 703, roads(5, 3, JUMP, 6, 1, SEGNO, 1, 0, OVER, 1, 4, CODA, 1));
+        checkDue("7 7 no CODA", 703, roads(5, 3, JUMP, 5, 0, OVER, 1));
+        checkDue("7 7 CODA in the bar", 703, roads(5, 3, JUMP, 5, 0, OVER, 1, 3, CODA, 1));
+        checkDue("7 OVER and CODA", 0, roads(5, 3, JUMP, 11, 3, OVER, 1, 4, CODA, 1));
+        checkDue("7 to the end nothing is wanted", 0, roads(5, 3, JUMP, 7));
         ScoreRoads x = roads(5, 3, JUMP, 3);
         due("7 fault", x.check(), 703);
         x.sign(1, FINE, 1);
@@ -322,63 +299,68 @@ public final class PromisesTest {
     }
 
     private static void promise09PlayedRepeats() {
-        playedDue("0 1 2 3", roads(4));
-        playedDue("0 1 2", roads(3, 0, SEGNO, 1, 1, FINE, 1, 1, OVER, 1, 2, CODA, 1, 1, LETTER, 1, 1, DOUBLE, 1));
-        playedDue("0 1 0 1 0 1 2 3", roads(4, 1, END, 3));
-        playedDue("0 1 1 2", roads(3, 1, START, 1, 1, END, 2));
-        playedDue("0 1 0 1 2 3 2 3", roads(4, 1, END, 2, 3, END, 2));
-        playedDue("0 1 0 1 2 3 3 3 4", roads(5, 1, END, 2, 3, START, 1, 3, END, 3));
-        playedDue("0 1 2 1 2 3 4 4", roads(5, 1, START, 1, 2, END, 2, 4, START, 1, 4, END, 2));
+        playedDue("9 road", "0 1 2 3", roads(4));
+        playedDue("9 road", "0 1 2",
+                roads(3, 0, SEGNO, 1, 1, FINE, 1, 1, OVER, 1, 2, CODA, 1, 1, LETTER, 1, 1, DOUBLE, 1));
+        playedDue("9 road", "0 1 0 1 0 1 2 3", roads(4, 1, END, 3));
+        playedDue("9 road", "0 1 1 2", roads(3, 1, START, 1, 1, END, 2));
+        playedDue("9 road", "0 1 0 1 2 3 2 3", roads(4, 1, END, 2, 3, END, 2));
+        playedDue("9 road", "0 1 0 1 2 3 3 3 4", roads(5, 1, END, 2, 3, START, 1, 3, END, 3));
+        playedDue("9 road", "0 1 2 1 2 3 4 4", roads(5, 1, START, 1, 2, END, 2, 4, START, 1, 4, END, 2));
     }
 
     private static void promise09PlayedEndings() {
-        playedDue("0 1 2 3 1 2 3 1 4 5", roads(6, 1, START, 1, 2, ENDING, 3, 3, END, 3, 4, ENDING, 4));
-        playedDue("0 1 0 2 0 3 4", roads(5, 1, ENDING, 1, 1, END, 3, 2, ENDING, 2, 2, END, 3, 3, ENDING, 4));
-        playedDue("0 2 0 1 0 3 4", roads(5, 1, ENDING, 2, 1, END, 3, 2, ENDING, 1, 2, END, 3, 3, ENDING, 4));
-        playedDue("0 2 3", roads(4, 1, ENDING, 2, 1, END, 3, 2, ENDING, 5));
-        playedDue("0 1 0 2 3 0 4", roads(5, 1, ENDING, 1, 1, END, 3, 2, ENDING, 2, 3, END, 3, 4, ENDING, 4));
-        playedDue("0 1 0 2 3 2 3 4", roads(5, 1, ENDING, 1, 1, END, 2, 2, ENDING, 2, 2, START, 1, 3, END, 2));
-        playedDue("0 1 0 2 3 2 4", roads(5, 1, ENDING, 1, 1, END, 2, 2, ENDING, 2, 2, START, 1,
+        playedDue("9 road", "0 1 2 3 1 2 3 1 4 5", roads(6, 1, START, 1, 2, ENDING, 3, 3, END, 3, 4, ENDING, 4));
+        playedDue("9 road", "0 1 0 2 0 3 4", roads(5, 1, ENDING, 1, 1, END, 3, 2, ENDING, 2, 2, END, 3, 3, ENDING, 4));
+        playedDue("9 road", "0 2 0 1 0 3 4", roads(5, 1, ENDING, 2, 1, END, 3, 2, ENDING, 1, 2, END, 3, 3, ENDING, 4));
+        playedDue("9 road", "0 2 3", roads(4, 1, ENDING, 2, 1, END, 3, 2, ENDING, 5));
+        playedDue("9 road", "0 1 0 2 3 0 4", roads(5, 1, ENDING, 1, 1, END, 3, 2, ENDING, 2, 3, END, 3, 4, ENDING, 4));
+        playedDue("9 road", "0 1 0 2 3 2 3 4", roads(5, 1, ENDING, 1, 1, END, 2, 2, ENDING, 2, 2, START, 1, 3, END, 2));
+        playedDue("9 road", "0 1 0 2 3 2 4", roads(5, 1, ENDING, 1, 1, END, 2, 2, ENDING, 2, 2, START, 1,
                 3, ENDING, 1, 3, END, 2, 4, ENDING, 2));
-        playedDue("0 0 0 1", roads(2, 0, ENDING, 7, 0, END, 4, 1, ENDING, 8));
+        playedDue("9 road", "0 0 0 1", roads(2, 0, ENDING, 7, 0, END, 4, 1, ENDING, 8));
     }
 
     private static void promise09PlayedJumps() {
-        playedDue("0 1 0 1 2 3 0 1 2 3", roads(4, 1, END, 2, 3, JUMP, 1));
-        playedDue("0 1 0 1 2 3 0 1 0 1 2 3", roads(4, 1, END, 2, 3, JUMP, 7));
-        playedDue("0 1 2 1 2 3", roads(4, 1, SEGNO, 1, 2, JUMP, 2));
-        playedDue("0 1 0 1 2", roads(3, 0, SEGNO, 1, 1, JUMP, 2));
-        playedDue("0 1 2 2 3", roads(4, 2, SEGNO, 1, 2, JUMP, 8));
-        playedDue("0 1 2 3 0 1", roads(5, 1, FINE, 1, 3, JUMP, 3));
-        playedDue("0 1 2 3 1 2", roads(5, 0, FINE, 1, 1, SEGNO, 1, 2, FINE, 1, 3, JUMP, 4));
-        playedDue("0 1 2 3 0 1 2 3 4", roads(5, 1, FINE, 1, 3, JUMP, 1));
-        playedDue("0 1 2 3 0 1 4 5", roads(6, 1, OVER, 1, 3, JUMP, 5, 4, CODA, 1));
-        playedDue("0 1 2 3 1 2 5", roads(6, 0, OVER, 1, 1, SEGNO, 1, 2, OVER, 1, 3, JUMP, 6, 5, CODA, 1));
-        playedDue("0 1 0 1 2 3 4 5", roads(6, 1, OVER, 1, 1, JUMP, 7, 4, CODA, 1));
-        playedDue("0 1 0 1 3 4 5", roads(6, 1, OVER, 1, 1, JUMP, 5, 3, CODA, 1, 4, OVER, 1));
-        playedDue("0 1 2 0 1", roads(3, 2, JUMP, 3, 1, FINE, 1, 0, OVER, 1));
+        playedDue("9 road", "0 1 0 1 2 3 0 1 2 3", roads(4, 1, END, 2, 3, JUMP, 1));
+        playedDue("9 road", "0 1 0 1 2 3 0 1 0 1 2 3", roads(4, 1, END, 2, 3, JUMP, 7));
+        playedDue("9 road", "0 1 2 1 2 3", roads(4, 1, SEGNO, 1, 2, JUMP, 2));
+        playedDue("9 road", "0 1 0 1 2", roads(3, 0, SEGNO, 1, 1, JUMP, 2));
+        playedDue("9 road", "0 1 2 2 3", roads(4, 2, SEGNO, 1, 2, JUMP, 8));
+        playedDue("9 road", "0 1 2 3 0 1", roads(5, 1, FINE, 1, 3, JUMP, 3));
+        playedDue("9 road", "0 1 2 3 1 2", roads(5, 0, FINE, 1, 1, SEGNO, 1, 2, FINE, 1, 3, JUMP, 4));
+        playedDue("9 road", "0 1 2 3 0 1 2 3 4", roads(5, 1, FINE, 1, 3, JUMP, 1));
+        playedDue("9 road", "0 1 2 3 0 1 4 5", roads(6, 1, OVER, 1, 3, JUMP, 5, 4, CODA, 1));
+        playedDue("9 road", "0 1 2 3 1 2 5", roads(6, 0, OVER, 1, 1, SEGNO, 1, 2, OVER, 1, 3, JUMP, 6, 5, CODA, 1));
+        playedDue("9 road", "0 1 0 1 2 3 4 5", roads(6, 1, OVER, 1, 1, JUMP, 7, 4, CODA, 1));
+        playedDue("9 road", "0 1 0 1 3 4 5", roads(6, 1, OVER, 1, 1, JUMP, 5, 3, CODA, 1, 4, OVER, 1));
+        playedDue("9 road", "0 1 2 0 1", roads(3, 2, JUMP, 3, 1, FINE, 1, 0, OVER, 1));
     }
 
     private static void promise09PlayedInsideRepeats() {
-        playedDue("0 1 0 1 2 3 0 1", roads(4, 1, END, 2, 1, FINE, 1, 3, JUMP, 3));
-        playedDue("0 1 0 1 2 3 0 1 0 1", roads(4, 1, END, 2, 1, FINE, 1, 3, JUMP, 9));
-        playedDue("0 1 0 1 2 3 0 1 0", roads(4, 1, END, 2, 0, FINE, 1, 3, JUMP, 9));
-        playedDue("0 1 0 1 2 3 0 4", roads(5, 1, END, 2, 0, OVER, 1, 3, JUMP, 5, 4, CODA, 1));
-        playedDue("0 1 0 1 2 3 0 1 2 4", roads(5, 1, END, 2, 0, SEGNO, 1, 2, OVER, 1, 3, JUMP, 6, 4, CODA, 1));
-        playedDue("0 1 0 1 2 3 0 1 0 4", roads(5, 1, END, 2, 0, OVER, 1, 3, JUMP, 11, 4, CODA, 1));
-        playedDue("0 1 0 0 1 2", roads(3, 0, JUMP, 1, 1, END, 2));
-        playedDue("0 1 0 0 1 0 1 2", roads(3, 0, JUMP, 7, 1, END, 2));
-        playedDue("0 1 0 1 0 1", roads(2, 1, END, 2, 1, JUMP, 1));
-        playedDue("0 1 0 2 3", roads(4, 1, ENDING, 1, 1, END, 2, 1, JUMP, 1, 2, ENDING, 2));
-        playedDue("0 1 0 2 3 2 3", roads(4, 1, ENDING, 1, 1, END, 2, 1, SEGNO, 1, 2, ENDING, 2, 3, JUMP, 2));
-        playedDue("0 1 0 2 3 1 0 2 3", roads(4, 1, ENDING, 1, 1, END, 2, 1, SEGNO, 1, 2, ENDING, 2, 3, JUMP, 8));
-        playedDue("0 1 0 2 2 3", roads(4, 1, ENDING, 1, 1, END, 2, 2, SEGNO, 1, 2, ENDING, 2, 2, JUMP, 8));
-        playedDue("0 1 2 0 3 4 2 3 4", roads(5, 1, ENDING, 1, 2, END, 2, 2, SEGNO, 1, 3, ENDING, 2, 4, JUMP, 2));
-        playedDue("0 1 0 1 2 3 2 3 4", roads(5, 0, ENDING, 1, 0, END, 2, 0, OVER, 1, 1, ENDING, 2, 1, JUMP, 11,
+        playedDue("9 road", "0 1 0 1 2 3 0 1", roads(4, 1, END, 2, 1, FINE, 1, 3, JUMP, 3));
+        playedDue("9 road", "0 1 0 1 2 3 0 1 0 1", roads(4, 1, END, 2, 1, FINE, 1, 3, JUMP, 9));
+        playedDue("9 road", "0 1 0 1 2 3 0 1 0", roads(4, 1, END, 2, 0, FINE, 1, 3, JUMP, 9));
+        playedDue("9 road", "0 1 0 1 2 3 0 4", roads(5, 1, END, 2, 0, OVER, 1, 3, JUMP, 5, 4, CODA, 1));
+        playedDue("9 road", "0 1 0 1 2 3 0 1 2 4",
+                roads(5, 1, END, 2, 0, SEGNO, 1, 2, OVER, 1, 3, JUMP, 6, 4, CODA, 1));
+        playedDue("9 road", "0 1 0 1 2 3 0 1 0 4", roads(5, 1, END, 2, 0, OVER, 1, 3, JUMP, 11, 4, CODA, 1));
+        playedDue("9 road", "0 1 0 0 1 2", roads(3, 0, JUMP, 1, 1, END, 2));
+        playedDue("9 road", "0 1 0 0 1 0 1 2", roads(3, 0, JUMP, 7, 1, END, 2));
+        playedDue("9 road", "0 1 0 1 0 1", roads(2, 1, END, 2, 1, JUMP, 1));
+        playedDue("9 road", "0 1 0 2 3", roads(4, 1, ENDING, 1, 1, END, 2, 1, JUMP, 1, 2, ENDING, 2));
+        playedDue("9 road", "0 1 0 2 3 2 3", roads(4, 1, ENDING, 1, 1, END, 2, 1, SEGNO, 1, 2, ENDING, 2, 3, JUMP, 2));
+        playedDue("9 road", "0 1 0 2 3 1 0 2 3",
+                roads(4, 1, ENDING, 1, 1, END, 2, 1, SEGNO, 1, 2, ENDING, 2, 3, JUMP, 8));
+        playedDue("9 road", "0 1 0 2 2 3", roads(4, 1, ENDING, 1, 1, END, 2, 2, SEGNO, 1, 2, ENDING, 2, 2, JUMP, 8));
+        playedDue("9 road", "0 1 2 0 3 4 2 3 4",
+                roads(5, 1, ENDING, 1, 2, END, 2, 2, SEGNO, 1, 3, ENDING, 2, 4, JUMP, 2));
+        playedDue("9 road", "0 1 0 1 2 3 2 3 4",
+                roads(5, 0, ENDING, 1, 0, END, 2, 0, OVER, 1, 1, ENDING, 2, 1, JUMP, 11,
                 2, CODA, 1, 3, OVER, 1));
-        playedDue("0 3 0 1 2 0 0 3 0 1 2 0 2 3 0 1 2 0 4 5", roads(6, 0, JUMP, 11, 0, OVER, 1, 1, ENDING, 2,
+        playedDue("9 road", "0 3 0 1 2 0 0 3 0 1 2 0 2 3 0 1 2 0 4 5", roads(6, 0, JUMP, 11, 0, OVER, 1, 1, ENDING, 2,
                 2, CODA, 1, 2, END, 3, 3, ENDING, 1, 3, END, 3, 4, ENDING, 4));
-        playedDue("0 1 2 3 4 2 0 1 2 3 4 2 3 5 6 3 4 2 3 5 6 7", roads(8, 0, ENDING, 1, 0, END, 2, 0, OVER, 1,
+        playedDue("9 road", "0 1 2 3 4 2 0 1 2 3 4 2 3 5 6 3 4 2 3 5 6 7", roads(8, 0, ENDING, 1, 0, END, 2, 0, OVER, 1,
                 1, ENDING, 2, 2, START, 1, 2, JUMP, 11, 3, CODA, 1, 4, ENDING, 1, 4, END, 2, 5, ENDING, 2,
                 6, OVER, 1));
     }
@@ -568,23 +550,23 @@ public final class PromisesTest {
         x.note(0, 0, 12, 4, 60, true);
         x.note(0, 1, 0, 8, 60, true);
         x.note(0, 2, 0, 3, 60, false);
-        soundDue("15 over three bars", x, 0, 120, 60, 15, 40 + 800 + 21);
-        soundDue("15 none such", x, 1, NONE, NONE, NONE, NONE);
-        soundDue("15 below", x, -1, NONE, NONE, NONE, NONE);
-        soundDue("15 far", x, Integer.MAX_VALUE, NONE, NONE, NONE, NONE);
+        soundDue("15 over three bars", x, 0, 0, 120, 60, 15, 40 + 800 + 21);
+        soundDue("15 none such", x, 0, 1, NONE, NONE, NONE, NONE);
+        soundDue("15 below", x, 0, -1, NONE, NONE, NONE, NONE);
+        soundDue("15 far", x, 0, Integer.MAX_VALUE, NONE, NONE, NONE, NONE);
         due("15 no such what", x.sound(0, 0, 4), NONE);
         due("15 no such what", x.sound(0, 0, -1), NONE);
         due("15 no such what", x.sound(0, 0, Integer.MIN_VALUE), NONE);
         due("15 another part", x.sound(1, 0, 0), NONE);
         x.sign(2, END, 2);
-        soundDue("15 first time", x, 0, 120, 60, 15, 861);
-        soundDue("15 second time", x, 1, 988 + 120, 60, 15, 861);
+        soundDue("15 first time", x, 0, 0, 120, 60, 15, 861);
+        soundDue("15 second time", x, 0, 1, 988 + 120, 60, 15, 861);
         x.bar(2, 3, 7);
-        soundDue("15 a bar has changed", x, 1, 981 + 120, 60, 15, 861);
+        soundDue("15 a bar has changed", x, 0, 1, 981 + 120, 60, 15, 861);
         x.note(0, 2, 1, 2, 0, false);
-        soundDue("15 a note more", x, 1, 967, 0, 2, 14);
+        soundDue("15 a note more", x, 0, 1, 967, 0, 2, 14);
         x.transpose(0, 10);
-        soundDue("15 transposed", x, 1, 967, 10, 2, 14);
+        soundDue("15 transposed", x, 0, 1, 967, 10, 2, 14);
         throwsDue("15 part", ARGUMENT, () -> x.sound(3, 0, 0));
         throwsDue("15 part", ARGUMENT, () -> x.sound(-1, 0, 0));
         x.sign(0, ENDING, 1);
@@ -664,96 +646,11 @@ public final class PromisesTest {
         restsDue("16 both at once", roads(4, 1, END, 2, 2, START, 1), 2, 2, 202);
     }
 
-    private static ScoreRoads roads(int bars, int... signs) {
-        ScoreRoads x = new ScoreRoads(bars);
-        for (int s = 0; s + 2 < signs.length; s += 3) {
-            x.sign(signs[s], signs[s + 1], signs[s + 2]);
-        }
-        return x;
-    }
-
-    /** The OVER in a first ending is never followed, so bar 3 comes before the jump, behind it, and as the coda. */
-    private static ScoreRoads threeWays() {
-        return roads(20, 0, ENDING, 1, 0, END, 2, 0, OVER, 1, 1, ENDING, 2, 2, START, 1, 2, JUMP, 11, 3, CODA, 1,
-                19, END, 4, 19, OVER, 1);
-    }
-
     /** Two bars: a note of pitch 60 in the first one, and one of four sixteenths in the second one. */
     private static ScoreRoads tied(int start, int length, boolean tie, int nextStart, int nextPitch) {
         ScoreRoads x = new ScoreRoads(2);
         x.note(0, 0, start, length, 60, tie);
         x.note(0, 1, nextStart, 4, nextPitch, false);
         return x;
-    }
-
-    private static long doBar(ScoreRoads x, int b, int length, int tempo) {
-        x.bar(b, length, tempo);
-        return 0;
-    }
-
-    private static int flag(boolean b) {
-        return b ? 1 : 0;
-    }
-
-    private static void due(String what, long got, long want) {
-        asked++;
-        if (got != want) {
-            wrong++;
-            System.out.println(what + ": answered " + got + ", due is " + want);
-        }
-    }
-
-    private static void throwsDue(String what, Class<?> want, LongSupplier call) {
-        asked++;
-        String got;
-        try {
-            got = "answer " + call.getAsLong();
-        } catch (RuntimeException e) {
-            if (e.getClass() == want) {
-                return;
-            }
-            got = e.getClass().getName();
-        }
-        wrong++;
-        System.out.println(what + ": " + got + ", due is " + want.getName());
-    }
-
-    private static void checkDue(String what, int want, ScoreRoads x) {
-        due("7 " + what, x.check(), want);
-    }
-
-    private static void playedDue(String want, ScoreRoads x) {
-        asked++;
-        StringBuilder got = new StringBuilder();
-        if (x.check() != 0) {
-            got.append("fault ").append(x.check());
-        }
-        for (int i = 0; i < x.plays(); i++) {
-            got.append(i == 0 ? "" : " ").append(x.played(i));
-        }
-        if (!got.toString().equals(want)) {
-            wrong++;
-            System.out.println("9 played: " + got + ", due is " + want);
-        }
-    }
-
-    private static void soundDue(String what, ScoreRoads x, int i, long... wants) {
-        for (int w = 0; w < wants.length; w++) {
-            due(what + ", what " + w, x.sound(0, i, w), wants[w]);
-        }
-    }
-
-    private static void pitchesDue(String what, ScoreRoads x, int part, int... wants) {
-        due(what + ", number", x.sounds(part), wants.length);
-        for (int i = 0; i < wants.length; i++) {
-            due(what + ", pitch " + i, x.sound(part, i, 1), wants[i]);
-        }
-    }
-
-    private static void restsDue(String what, ScoreRoads x, int part, int... wants) {
-        for (int i = 0; i < wants.length; i++) {
-            due(what + ", group " + i, x.rest(part, i), wants[i]);
-        }
-        due(what + ", no more", x.rest(part, wants.length), NONE);
     }
 }
