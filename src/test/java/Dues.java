@@ -31,6 +31,22 @@ abstract class Dues {
         sentences++;
     }
 
+    /** Runs one test; a call that throws though an answer is due ends this test alone. */
+    static void test(Runnable test) {
+        sentence = "";
+        try {
+            test.run();
+        } catch (RuntimeException e) {
+            wrong++;
+            System.out.println(sentence + "throws." + e.getClass().getSimpleName() + " where an answer is due");
+            for (StackTraceElement line : e.getStackTrace()) {
+                if (line.getClassName().endsWith("Test")) {
+                    System.out.println("    at " + line);
+                }
+            }
+        }
+    }
+
     static void end() {
         String held = sentences == 0 ? "" : sentences + " sentences, ";
         System.out.println(held + asked + " answers looked at, " + wrong + " wrong");

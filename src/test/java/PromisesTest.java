@@ -1,34 +1,34 @@
 /** One method for each promise of the document: ordinary calls, the edges, and wrong calls. */
 public final class PromisesTest extends Dues {
     public static void main(String[] args) {
-        promise01NewObject();
-        promise02Bar();
-        promise03Sign();
-        promise04SignAt();
-        promise05Note();
-        promise05Forty();
-        promise06Transpose();
-        promise07Repeats();
-        promise07Endings();
-        promise07Jumps();
-        promise08Plays();
-        promise09PlayedRepeats();
-        promise09PlayedEndings();
-        promise09PlayedJumps();
-        promise09PlayedInsideRepeats();
-        promise09Wrong();
-        promise10Time();
-        promise11Find();
-        promise12Tick();
-        promise13At();
-        promise14Sounds();
-        promise14Changes();
-        nothingStaysOfALongerRoad();
-        promise14Ties();
-        promise15Sound();
-        promise15Order();
-        promise16Rest();
-        promise16Cuts();
+        test(PromisesTest::promise01NewObject);
+        test(PromisesTest::promise02Bar);
+        test(PromisesTest::promise03Sign);
+        test(PromisesTest::promise04SignAt);
+        test(PromisesTest::promise05Note);
+        test(PromisesTest::promise05Forty);
+        test(PromisesTest::promise06Transpose);
+        test(PromisesTest::promise07Repeats);
+        test(PromisesTest::promise07Endings);
+        test(PromisesTest::promise07Jumps);
+        test(PromisesTest::promise08Plays);
+        test(PromisesTest::promise09PlayedRepeats);
+        test(PromisesTest::promise09PlayedEndings);
+        test(PromisesTest::promise09PlayedJumps);
+        test(PromisesTest::promise09PlayedInsideRepeats);
+        test(PromisesTest::promise09Wrong);
+        test(PromisesTest::promise10Time);
+        test(PromisesTest::promise11Find);
+        test(PromisesTest::promise12Tick);
+        test(PromisesTest::promise13At);
+        test(PromisesTest::promise14Sounds);
+        test(PromisesTest::promise14Changes);
+        test(PromisesTest::nothingStaysOfALongerRoad);
+        test(PromisesTest::promise14Ties);
+        test(PromisesTest::promise15Sound);
+        test(PromisesTest::promise15Order);
+        test(PromisesTest::promise16Rest);
+        test(PromisesTest::promise16Cuts);
         end();
     }
 

@@ -23,13 +23,13 @@ public final class RefusedCallsTest extends Dues {
     }
 
     public static void main(String[] args) {
-        aPageOfOneBar();
-        aPageOfOneBarWithANote();
-        aPageOfAnyOtherNumber();
-        aRoadWithAll();
-        twentyBarsAndFortyNotes();
-        aPageWithAFault();
-        signsPutAndTakenAway();
+        test(RefusedCallsTest::aPageOfOneBar);
+        test(RefusedCallsTest::aPageOfOneBarWithANote);
+        test(RefusedCallsTest::aPageOfAnyOtherNumber);
+        test(RefusedCallsTest::aRoadWithAll);
+        test(RefusedCallsTest::twentyBarsAndFortyNotes);
+        test(RefusedCallsTest::aPageWithAFault);
+        test(RefusedCallsTest::signsPutAndTakenAway);
         end();
     }
 
