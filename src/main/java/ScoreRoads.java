@@ -308,6 +308,9 @@ public final class ScoreRoads {
 
         /** The last bar with a sign of a kind, from one bar to another one (itself, too); NONE when there is none. */
         int lastWith(int kind, int from, int to) {
+            if (kind < 0 || kind >= KINDS) {
+                return NONE;
+            }
             for (int b = Math.min(to, bars - 1); b >= Math.max(from, 0); b--) {
                 if (values[b * KINDS + kind] != 0) {
                     return b;
@@ -402,7 +405,7 @@ public final class ScoreRoads {
         private void gatherEnds(Page page) {
             Repeat repeat = null;
             for (int b = 0; b < byEnd.length; b++) {
-                if (page.has(b, END)) {
+                if (page.has(b, END) && number < all.length) {
                     if (repeat == null) {
                         repeat = begin(page, 0, b);
                     } else if (!goesOn(page, repeat.lastEnd + 1, b)) {
@@ -439,7 +442,7 @@ public final class ScoreRoads {
                 return;
             }
             for (int b = repeat.firstEnd; b <= repeat.lastEnd; b++) {
-                if (byEnd[b] == repeat) {
+                if (ofEnd(b) == repeat) {
                     takeEnding(page, repeat, b + 1);
                 }
             }
